@@ -39,6 +39,7 @@ public final class MatchboxModem {
     private static final int LAST_CLOCK = 900000;
     private static final int TAKEN_BITS = 100;
     private static final int MOST_PATTERN = 65535;
+    private static final int MOST_DIGITS = 16;
     private static final int CHEWED_SEARCH = 1000;
     private static final int QUIET_SEARCH = 2000;
     private static final int MOST_QUIET = 500;
@@ -238,12 +239,12 @@ public final class MatchboxModem {
 
     public boolean hasArrived(int frame) throws IndexOutOfBoundsException {
         requireFrame(frame);
-        return line.frames.there[frame];
+        return line.frames.arrivals[frame] > 0;
     }
 
     public int arrivedByte(int frame, int index) throws IndexOutOfBoundsException {
         requireFrame(frame);
-        if (!line.frames.there[frame] || index < 0 || index >= line.frames.sizes[frame]) {
+        if (line.frames.arrivals[frame] == 0 || index < 0 || index >= line.frames.sizes[frame]) {
             return NONE;
         }
         return line.frames.arrived[frame * FRAME_ROOM + index];
@@ -321,7 +322,7 @@ public final class MatchboxModem {
         if (pattern < 1 || pattern > MOST_PATTERN) {
             throw new IllegalArgumentException("the pattern is not one of 1 to 65535");
         }
-        int digits = 32 - Integer.numberOfLeadingZeros(pattern);
+        int digits = binaryDigits(pattern);
         if (bit < 0 || bit > line.frames.sizes[frame] * 8 - digits) {
             throw new IllegalArgumentException("the frame does not have all bits of the pattern");
         }
@@ -586,6 +587,14 @@ public final class MatchboxModem {
             }
         }
         return sum;
+    }
+
+    private static int binaryDigits(int pattern) {
+        int digits = 0;
+        while (digits < MOST_DIGITS && pattern >> digits > 0) {
+            digits++;
+        }
+        return digits;
     }
 
     private static int takenIndex(int bit, int drift) {
@@ -945,7 +954,7 @@ public final class MatchboxModem {
         final int[] sizes = new int[MOST_FRAMES];
         final int[] states = new int[MOST_FRAMES];
         final int[] tries = new int[MOST_FRAMES];
-        final boolean[] there = new boolean[MOST_FRAMES];
+        final int[] arrivals = new int[MOST_FRAMES];
         final int[] sent = new int[MOST_FRAMES * FRAME_ROOM];
         final int[] arrived = new int[MOST_FRAMES * FRAME_ROOM];
 
@@ -954,7 +963,7 @@ public final class MatchboxModem {
             System.arraycopy(other.sizes, 0, sizes, 0, MOST_FRAMES);
             System.arraycopy(other.states, 0, states, 0, MOST_FRAMES);
             System.arraycopy(other.tries, 0, tries, 0, MOST_FRAMES);
-            System.arraycopy(other.there, 0, there, 0, MOST_FRAMES);
+            System.arraycopy(other.arrivals, 0, arrivals, 0, MOST_FRAMES);
             System.arraycopy(other.sent, 0, sent, 0, MOST_FRAMES * FRAME_ROOM);
             System.arraycopy(other.arrived, 0, arrived, 0, MOST_FRAMES * FRAME_ROOM);
         }
@@ -972,7 +981,7 @@ public final class MatchboxModem {
             sizes[count] = bytes + 2;
             states[count] = QUEUED;
             tries[count] = 0;
-            there[count] = false;
+            arrivals[count] = 0;
             count++;
         }
 
@@ -1000,12 +1009,12 @@ public final class MatchboxModem {
             if (frame < 0 || frame >= MOST_FRAMES || taken.length < FRAME_ROOM) {
                 return;
             }
-            there[frame] = true;
+            arrivals[frame]++;
             System.arraycopy(taken, 0, arrived, frame * FRAME_ROOM, FRAME_ROOM);
         }
 
         boolean arrivedAsSent(int frame) {
-            if (frame < 0 || frame >= MOST_FRAMES || !there[frame]) {
+            if (frame < 0 || frame >= MOST_FRAMES || arrivals[frame] == 0) {
                 return false;
             }
             int base = frame * FRAME_ROOM;
