@@ -8,17 +8,24 @@ import java.util.Random;
 /** Long runs of calls, chosen by fixed seeds: the program and the model must answer the same. */
 public final class ModelTest {
     private static final int RUNS = 400;
-    private static final int CALLS = 500;
-    private static final String[] WORDS = {"send a", "send hello", "send abcdefghijklmnop", "send abcdefghijklmnopq",
-        "transmit 1", "transmit 60", "transmit 61", "transmit 7", "cancel 0", "cancel 1", "cancel 12", "resend 0",
-        "resend 2", "wait 1", "wait 999", "wait 1000", "drift 100", "drift 104", "drift 0", "dog 50 5 0",
-        "dog 9 9 1", "dog 300 20 7", "chase 0", "chase 1", "chase 3", "bark", "wait", "send", "send 5", "3"};
+    // A text of the longest kind takes 27 calls: no object answers more than 512.
+    private static final int CALLS = 485;
+    private static final String[] GOOD = {"send a", "send hello", "send abcdefghijklmnop", "transmit 1", "transmit 60",
+        "transmit 7", "cancel 0", "cancel 1", "cancel 11", "resend 0", "resend 2", "wait 1", "wait 999", "drift 100",
+        "drift 104", "dog 50 5 0", "dog 300 20 7", "chase 0", "chase 1", "chase 2"};
+    private static final String[] BAD = {"send abcdefghijklmnopq", "transmit 0", "transmit 61", "cancel 12", "resend 12",
+        "wait 0", "wait 1000", "drift 0", "drift 200", "dog 9 9 1", "dog 1 1 1", "dog 9 1 1000", "chase 3", "bark", "wait",
+        "send", "send 5", "3", "!"};
     private static final String[] CONFIGURATIONS = {"modem 1 100 1 2;", "modem 2 100 10 4;dog 200 30 20;",
         "modem 1 101 5 9;dog 97 3 0;", "modem 3 99 99 9;dog 2 1 0;", "modem 1 100 3 3;dog 61 1 3;dog 53 3 9;",
         "modem 9 100 99 9;dog 3 2 0;dog 999 998 999;dog 7 1 5;", "modem 1 100 1 1;dog 999 1 8;dog 999 3 14;",
         "modem 1 100 2 3;dog 59 1 3;dog 59 3 9;dog 59 8 48;", "modem 4 95 7 5;dog 40 2 1;", "modem1 100 1 1;dog3 1 0;",
         "modem 10 100 1 1;", "modem 1 100 1 1", "modem 1 100 1 1;dog 9 1 0;dog 9 1 0;dog 9 1 0;dog 9 1 0;", "",
         "modem 9 100 99 9;dog 2 1 0;"};
+
+    // The edges that the document names, and what lies next to them.
+    private static final int[] EDGES = {-1, 0, 1, 2, 3, 8, 12, 16, 47, 48, 60, 61, 99, 100, -99, -100, 263, 499, 500, 501, 600,
+        998, 999, 1000, 32768, 65535, 65536, 899999, 900000, 900001, 999999, 1000000, Integer.MIN_VALUE, Integer.MAX_VALUE};
 
     private final Random random;
     private final MatchboxModem program = new MatchboxModem();
@@ -76,7 +83,7 @@ public final class ModelTest {
         for (int i = 0; i < 4; i++) {
             same &= call(MatchboxModem.class.getMethod("transmit", int.class), 55);
         }
-        for (int i = 0; i < 90 && program.clock() < 895000; i++) {
+        for (int i = 0; i < 90 && model.clock() < 895000; i++) {
             same &= call(MatchboxModem.class.getMethod("transmit", int.class), 1);
         }
         return same && call(MatchboxModem.class.getMethod("save"));
@@ -87,8 +94,8 @@ public final class ModelTest {
         int n = random.nextInt(10) == 0 ? random.nextInt(34) : random.nextInt(5);
         for (int i = 0; i < n; i++) {
             // Rarely a wrong command, as otherwise no long text would ever be run.
-            int bound = random.nextInt(12) == 0 ? WORDS.length : 20;
-            s.append(WORDS[random.nextInt(bound)]).append(random.nextInt(60) == 0 ? "" : ";");
+            String[] words = random.nextInt(40) == 0 ? BAD : GOOD;
+            s.append(words[random.nextInt(words.length)]).append(random.nextInt(90) == 0 ? "" : ";");
             s.append(random.nextInt(9) == 0 ? " " : "");
         }
         return s.toString();
@@ -125,13 +132,12 @@ public final class ModelTest {
         Object[] out = new Object[m.getParameterCount()];
         String name = m.getName();
         for (int i = 0; i < out.length; i++) {
-            int kind = random.nextInt(16);
-            if (kind == 0) {
-                out[i] = List.of(-1, Integer.MIN_VALUE, Integer.MAX_VALUE, 1000000, 999999, 100, 500).get(random.nextInt(7));
+            if (random.nextInt(12) == 0) {
+                out[i] = EDGES[random.nextInt(EDGES.length)];
             } else if (name.equals("append")) {
                 out[i] = random.nextInt();
             } else if (name.matches("isChewed|nextChewedTick|nextQuietTick|waitTicks") || tickOf(name) == i) {
-                out[i] = random.nextInt(2) == 0 ? random.nextInt(1000) : program.clock() + random.nextInt(60);
+                out[i] = random.nextInt(2) == 0 ? random.nextInt(1000) : model.clock() + random.nextInt(60);
             } else if (name.equals("wouldPass") && i == 1) {
                 out[i] = random.nextInt(3) == 0 ? 263 : random.nextInt(65536);
             } else if (name.equals("setDrift")) {
@@ -142,7 +148,7 @@ public final class ModelTest {
                 out[i] = random.nextInt(i == 1 ? 50 : 64);
             } else {
                 out[i] = random.nextInt(name.contains("essage") ? 13 : name.contains("Dog") ? 4
-                        : Math.max(2, program.frameCount() + 1));
+                        : Math.max(2, model.frameCount() + 1));
             }
         }
         return out;

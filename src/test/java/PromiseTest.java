@@ -1,162 +1,5 @@
-import java.util.function.LongSupplier;
-
 /** For each promise of the document: ordinary inputs, the edges that it names, and wrong inputs. */
-public final class PromiseTest {
-    private static final Class<? extends RuntimeException> ARGUMENT = IllegalArgumentException.class;
-    private static final Class<? extends RuntimeException> STATE = IllegalStateException.class;
-    private static final Class<? extends RuntimeException> INDEX = IndexOutOfBoundsException.class;
-    private static final int NONE = MatchboxModem.NONE;
-
-    private static int wrong;
-    private static String promise = "";
-    private static int checks;
-
-    private static void due(long got, long want) {
-        checks++;
-        if (got != want) {
-            wrong++;
-            StackTraceElement line = Thread.currentThread().getStackTrace()[2];
-            System.out.println("promise " + promise + ", " + line + ": answered " + got + ", due is " + want);
-        }
-    }
-
-    private static void due(boolean got, boolean want) {
-        due(got ? 1 : 0, want ? 1 : 0);
-    }
-
-    /** The call throws exactly this, and nothing that can be seen changes. */
-    private static void refused(MatchboxModem x, Class<? extends RuntimeException> what, LongSupplier call) {
-        checks++;
-        String before = seen(x);
-        String got = "nothing";
-        try {
-            call.getAsLong();
-        } catch (RuntimeException e) {
-            got = e.getClass().getSimpleName();
-        }
-        if (!got.equals(what.getSimpleName()) || !seen(x).equals(before)) {
-            wrong++;
-            StackTraceElement line = Thread.currentThread().getStackTrace()[2];
-            System.out.println("promise " + promise + ", " + line + ": threw " + got + ", due is "
-                    + what.getSimpleName() + "; before: " + before + " after: " + seen(x));
-        }
-    }
-
-    /** All that the questions without a number answer, and all of the frames and messages. */
-    private static String seen(MatchboxModem x) {
-        return state(x) + "; input " + x.checksum() + "; error " + x.errorCode() + " " + x.errorPosition()
-                + "; output " + x.outputByte(0) + " " + x.outputByte(1) + " " + x.outputByte(34);
-    }
-
-    /** What save saves and undo takes back. */
-    private static String state(MatchboxModem x) {
-        StringBuilder s = new StringBuilder();
-        s.append(x.clock()).append(' ').append(x.bitTime()).append(' ').append(x.drift()).append(" dogs ");
-        s.append(x.dogCount());
-        for (int tick = 0; tick < 260; tick++) {
-            s.append(x.isChewed(tick) ? '*' : '.');
-        }
-        for (int i = 0; i < x.messageCount(); i++) {
-            s.append(" message ").append(x.messageLength(i)).append(x.messageState(i)).append(x.firstFrame(i));
-        }
-        for (int i = 0; i < x.frameCount(); i++) {
-            s.append(" frame ").append(x.frameState(i)).append(x.attemptsOf(i)).append(x.hasArrived(i));
-            for (int k = 0; k < x.frameLength(i); k++) {
-                s.append(' ').append(x.frameByte(i, k)).append(',').append(x.arrivedByte(i, k));
-            }
-        }
-        s.append(" counters ").append(x.napEnd()).append(' ').append(x.pendingFrame()).append(' ').append(x.attempts());
-        s.append(' ').append(x.unreadableFrames()).append(' ').append(x.duplicates()).append(' ');
-        s.append(x.lostAcknowledgements()).append(' ').append(x.nappedTicks()).append(' ').append(x.bitsSent());
-        s.append(' ').append(x.attemptImbalance()).append(x.clockImbalance());
-        return s.toString();
-    }
-
-    private static void put(MatchboxModem x, String text) {
-        for (int from = 0; from < text.length(); from += 20) {
-            int[] v = new int[5];
-            for (int i = 0; i < 20; i++) {
-                v[i / 4] = v[i / 4] << 8 | (from + i < text.length() ? text.charAt(from + i) : 32);
-            }
-            x.append(v[0], v[1], v[2], v[3], v[4]);
-        }
-        x.truncate(text.length());
-    }
-
-    private static MatchboxModem with(String configuration) {
-        MatchboxModem x = new MatchboxModem();
-        put(x, configuration);
-        x.load();
-        return x;
-    }
-
-    private static int send(MatchboxModem x, String text) {
-        x.truncate(0);
-        put(x, text);
-        return x.sendMessage();
-    }
-
-    private static int commands(MatchboxModem x, String text) {
-        x.truncate(0);
-        put(x, text);
-        return x.executeCommands();
-    }
-
-    private static void badConfiguration(String text, int code, int position) {
-        bad(text, code, position, false);
-    }
-
-    private static void badCommands(String text, int code, int position) {
-        bad(text, code, position, true);
-    }
-
-    private static void bad(String text, int code, int position, boolean commands) {
-        MatchboxModem x = new MatchboxModem();
-        x.transmit(1);
-        String before = state(x);
-        put(x, text);
-        boolean threw = false;
-        try {
-            if (commands) {
-                x.executeCommands();
-            } else {
-                x.load();
-            }
-        } catch (IllegalArgumentException e) {
-            threw = true;
-        }
-        due(threw, true);
-        due(x.errorCode(), code);
-        due(x.errorPosition(), position);
-        due(x.append(0, 0, 0, 0, 0), 20);
-        due(state(x).equals(before), true);
-        due(x.undo(), 0);
-    }
-
-    /** A frame of 3 bytes whose first acknowledgement is chewed, at tick 24. */
-    private static MatchboxModem withLostAcknowledgement() {
-        MatchboxModem x = with("modem 1 100 1 3;dog 999 1 24;");
-        send(x, "a");
-        return x;
-    }
-
-    /** The clock is at most 900000, and the next transmit brings it over that. */
-    private static MatchboxModem nearTheEnd() {
-        MatchboxModem x = with("modem 9 100 99 9;dog 2 1 0;");
-        commands(x, "send abcdefghijklmnop;".repeat(12));
-        x.transmit(60);
-        x.transmit(60);
-        x.transmit(60);
-        x.transmit(60);
-        for (int i = 0; i < 60 && x.clock() <= 899000; i++) {
-            x.transmit(1);
-        }
-        while (x.clock() <= 900000 - 504 - 999) {
-            x.waitTicks(999);
-        }
-        return x;
-    }
-
+public final class PromiseTest extends Checks {
     public static void main(String[] arguments) {
         inputAndTexts();
         dogsAndTime();
@@ -166,9 +9,7 @@ public final class PromiseTest {
         queueAndCounters();
         operations();
         undoSaveOutput();
-        System.out.println(wrong == 0 ? "PromiseTest: all " + checks + " checks hold"
-                : "PromiseTest: " + wrong + " checks fail");
-        System.exit(wrong == 0 ? 0 : 1);
+        end("PromiseTest");
     }
 
     private static void inputAndTexts() {
@@ -183,8 +24,8 @@ public final class PromiseTest {
     }
 
     private static void promise1() {
-        promise = "1";
-        MatchboxModem x = new MatchboxModem();
+        topic = "promise 1";
+        Taped x = new Taped();
         due(x.bitTime(), 2);
         due(x.drift(), 0);
         due(x.clock(), 0);
@@ -209,13 +50,13 @@ public final class PromiseTest {
         due(x.napEnd(), x.clock() + 10);
         due(x.transmit(60), 3);
         due(x.frameState(0), MatchboxModem.LOST);
-        MatchboxModem y = new MatchboxModem();
+        Taped y = new Taped();
         due(y.clock(), 0);
     }
 
     private static void promise2() {
-        promise = "2";
-        MatchboxModem x = new MatchboxModem();
+        topic = "promise 2";
+        Taped x = new Taped();
         due(x.append(0x01020304, 0x05060708, 0x090a0b0c, 0x0d0e0f10, 0xff80fe7f), 20);
         x.truncate(16);
         due(x.sendMessage(), 1);
@@ -240,8 +81,8 @@ public final class PromiseTest {
     }
 
     private static void promise3() {
-        promise = "3";
-        MatchboxModem x = new MatchboxModem();
+        topic = "promise 3";
+        Taped x = new Taped();
         due(x.truncate(0), 0);
         put(x, "abcdef");
         refused(x, ARGUMENT, () -> x.truncate(7));
@@ -257,8 +98,8 @@ public final class PromiseTest {
     }
 
     private static void promise4() {
-        promise = "4";
-        MatchboxModem x = new MatchboxModem();
+        topic = "promise 4";
+        Taped x = new Taped();
         x.transmit(2);
         x.save();
         x.formatFrame(0, 0);
@@ -283,7 +124,7 @@ public final class PromiseTest {
         due(x.drift(), -99);
         due(x.isChewed(2), true);
         // The receiver has forgotten the sequence number, too.
-        MatchboxModem y = with("modem 1 100 1 1;");
+        Taped y = with("modem 1 100 1 1;");
         send(y, "a");
         y.transmit(1);
         put(y, "modem 1 100 1 1;");
@@ -333,8 +174,8 @@ public final class PromiseTest {
     }
 
     private static void promise5() {
-        promise = "5";
-        MatchboxModem x = new MatchboxModem();
+        topic = "promise 5";
+        Taped x = new Taped();
         due(commands(x, ""), 0);
         due(x.undo(), 0);
         due(commands(x, " transmit9 ;send  hello; wait 5;drift 150;dog 50 5 0;chase 0;"), 6);
@@ -365,16 +206,13 @@ public final class PromiseTest {
         due(commands(x, "cancel 2;resend 2;"), 1);
         due(x.messageCount(), 12);
         due(x.undo(), 7);
-        MatchboxModem y = nearTheEnd();
-        due(commands(y, "transmit 1;transmit 1;"), y.clock() > 900000 ? 1 : 2);
-        for (int i = 0; i < 4 && y.clock() <= 900000; i++) {
-            y.transmit(1);
-        }
+        Taped y = atTick(900000);
+        due(commands(y, "transmit 1;transmit 1;"), 1);
         due(commands(y, "transmit 1;wait 1;"), 0);
         due(commands(y, "drift 1;wait 1;"), 1);
         // A word to send may be the name of a command, and a number may have zeros in front.
-        due(commands(new MatchboxModem(), "send send;send wait;send abcdefghijklmnop;wait 001;wait 999;"), 5);
-        due(commands(new MatchboxModem(), "wait 1;".repeat(30)), 30);
+        due(commands(new Taped(), "send send;send wait;send abcdefghijklmnop;wait 001;wait 999;"), 5);
+        due(commands(new Taped(), "wait 1;".repeat(30)), 30);
     }
 
     private static void promise5Errors() {
@@ -414,8 +252,8 @@ public final class PromiseTest {
     }
 
     private static void promises6And7() {
-        promise = "6 and 7";
-        MatchboxModem x = new MatchboxModem();
+        topic = "promise 6 and 7";
+        Taped x = new Taped();
         due(x.errorCode(), 0);
         due(x.errorPosition(), NONE);
         put(x, "wait 0;");
@@ -454,8 +292,8 @@ public final class PromiseTest {
     }
 
     private static void dogsAndTime() {
-        promise = "8";
-        MatchboxModem x = new MatchboxModem();
+        topic = "promise 8";
+        Taped x = new Taped();
         due(x.clock(), 0);
         x.transmit(1);
         due(x.clock(), 80);
@@ -463,14 +301,14 @@ public final class PromiseTest {
         due(x.clock(), 170);
         x.waitTicks(5);
         due(x.clock(), 175);
-        promise = "9";
+        topic = "promise 9";
         due(x.bitTime(), 2);
         due(with("modem 7 1 1 1;").bitTime(), 7);
-        promise = "10";
+        topic = "promise 10";
         due(with("modem 7 1 1 1;").drift(), -99);
         x.setDrift(-7);
         due(x.drift(), -7);
-        promise = "11";
+        topic = "promise 11";
         due(x.dogCount(), 1);
         x.removeDog(0);
         due(x.dogCount(), 0);
@@ -482,8 +320,8 @@ public final class PromiseTest {
     }
 
     private static void promise12() {
-        promise = "12";
-        MatchboxModem x = with("modem 1 100 1 1;dog 10 3 5;dog 999 1 7;");
+        topic = "promise 12";
+        Taped x = with("modem 1 100 1 1;dog 10 3 5;dog 999 1 7;");
         due(x.isChewed(0), false);
         due(x.isChewed(4), false);
         due(x.isChewed(5), true);
@@ -493,7 +331,7 @@ public final class PromiseTest {
         due(x.isChewed(1006), true);
         due(x.isChewed(999999), false);
         due(x.isChewed(999997), true);
-        MatchboxModem y = with("modem 1 100 1 1;dog 999 1 0;");
+        Taped y = with("modem 1 100 1 1;dog 999 1 0;");
         due(y.isChewed(999999), true);
         due(y.isChewed(998), false);
         due(y.isChewed(999), true);
@@ -503,15 +341,15 @@ public final class PromiseTest {
     }
 
     private static void promise13() {
-        promise = "13";
-        MatchboxModem x = with("modem 1 100 1 1;dog 999 1 999;");
+        topic = "promise 13";
+        Taped x = with("modem 1 100 1 1;dog 999 1 999;");
         due(x.nextChewedTick(0), 999);
         due(x.nextChewedTick(999), 999);
         due(x.nextChewedTick(1000), 1998);
         due(x.nextChewedTick(999999), 999999);
         due(with("modem 1 100 1 1;dog 997 1 0;").nextChewedTick(999999), 997 * 1004);
         due(with("modem 1 100 1 1;").nextChewedTick(5), NONE);
-        MatchboxModem y = with("modem 1 100 1 1;dog 999 998 999;");
+        Taped y = with("modem 1 100 1 1;dog 999 998 999;");
         due(y.nextChewedTick(0), 999);
         due(y.nextChewedTick(1997), 1998);
         refused(x, ARGUMENT, () -> x.nextChewedTick(-1));
@@ -519,8 +357,8 @@ public final class PromiseTest {
     }
 
     private static void promise14() {
-        promise = "14";
-        MatchboxModem x = new MatchboxModem();
+        topic = "promise 14";
+        Taped x = new Taped();
         due(x.nextQuietTick(20), 0);
         due(x.nextQuietTick(21), 50);
         due(x.nextQuietTick(170), 50);
@@ -533,13 +371,13 @@ public final class PromiseTest {
         refused(x, ARGUMENT, () -> x.nextQuietTick(0));
         refused(x, ARGUMENT, () -> x.nextQuietTick(501));
         refused(x, ARGUMENT, () -> x.nextQuietTick(-1));
-        MatchboxModem y = with("modem 1 100 1 1;");
+        Taped y = with("modem 1 100 1 1;");
         y.waitTicks(7);
         due(y.nextQuietTick(500), 7);
         // Both dogs pause only in the multiples of 667 and of 87, less 1: together first in 2001 - 1.
         due(with("modem 1 100 1 1;dog 667 666 0;dog 87 86 0;").nextQuietTick(1), 2000);
         // The same with the multiples of 91 and of 22: first in 2002 - 1.
-        MatchboxModem z = with("modem 1 100 1 1;dog 91 90 0;dog 22 21 0;");
+        Taped z = with("modem 1 100 1 1;dog 91 90 0;dog 22 21 0;");
         due(z.nextQuietTick(1), NONE);
         z.waitTicks(1);
         due(z.nextQuietTick(1), 2001);
@@ -550,8 +388,8 @@ public final class PromiseTest {
     }
 
     private static void promise15() {
-        promise = "15";
-        MatchboxModem x = new MatchboxModem();
+        topic = "promise 15";
+        Taped x = new Taped();
         due(x.checksum(), 0);
         put(x, "hi");
         due(x.checksum(), 69);
@@ -573,31 +411,31 @@ public final class PromiseTest {
     }
 
     private static void messagesAndFrames() {
-        promise = "16";
-        MatchboxModem x = with("modem 1 100 1 2;");
+        topic = "promise 16";
+        Taped x = with("modem 1 100 1 2;");
         due(x.messageCount(), 0);
         due(send(x, "abcdefghijklmnop"), 0);
         due(x.messageCount(), 1);
         due(send(x, "q"), 1);
         due(x.messageCount(), 2);
-        promise = "17";
+        topic = "promise 17";
         due(x.messageLength(0), 16);
         due(x.messageLength(1), 1);
         refused(x, INDEX, () -> x.messageLength(2));
         refused(x, INDEX, () -> x.messageLength(-1));
         promise18();
-        promise = "19";
+        topic = "promise 19";
         due(x.firstFrame(0), 0);
         due(x.firstFrame(1), 4);
         refused(x, INDEX, () -> x.firstFrame(2));
         refused(x, INDEX, () -> x.firstFrame(-1));
-        promise = "20";
+        topic = "promise 20";
         due(x.frameCount(), 5);
         due(with("modem 1 100 1 1;").frameCount(), 0);
-        MatchboxModem full = with("modem 1 100 1 1;");
+        Taped full = with("modem 1 100 1 1;");
         commands(full, "send abcdefghijklmnop;".repeat(12));
         due(full.frameCount(), 48);
-        promise = "21";
+        topic = "promise 21";
         due(x.frameLength(0), 6);
         due(x.frameLength(4), 3);
         refused(x, INDEX, () -> x.frameLength(5));
@@ -609,8 +447,8 @@ public final class PromiseTest {
     }
 
     private static void promise18() {
-        promise = "18";
-        MatchboxModem x = with("modem 1 100 1 1;dog 999 1 0;");
+        topic = "promise 18";
+        Taped x = with("modem 1 100 1 1;dog 999 1 0;");
         send(x, "abcde");
         due(x.messageState(0), MatchboxModem.PENDING);
         x.transmit(1);
@@ -628,8 +466,8 @@ public final class PromiseTest {
         refused(x, INDEX, () -> x.messageState(-1));
     }
 
-    private static void promise22(MatchboxModem x, MatchboxModem full) {
-        promise = "22";
+    private static void promise22(Taped x, Taped full) {
+        topic = "promise 22";
         due(x.frameByte(0, 0), 4);
         due(x.frameByte(3, 0), 52);
         due(x.frameByte(4, 0), 65);
@@ -644,7 +482,7 @@ public final class PromiseTest {
         due(full.frameByte(15, 0), 244);
         due(full.frameByte(16, 0), 4);
         due(full.frameByte(47, 0), 244);
-        due(new MatchboxModem().frameByte(0, 3), 147);
+        due(new Taped().frameByte(0, 3), 147);
         refused(x, INDEX, () -> x.frameByte(5, 0));
         refused(x, INDEX, () -> x.frameByte(-1, 0));
         // The checksum is that of the bytes before it.
@@ -654,8 +492,8 @@ public final class PromiseTest {
     }
 
     private static void promise23() {
-        promise = "23";
-        MatchboxModem x = new MatchboxModem();
+        topic = "promise 23";
+        Taped x = new Taped();
         String bits = "00000010" + "01101000" + "01101001" + "10010011";
         for (int i = 0; i < 32; i++) {
             due(x.frameBit(0, i), bits.charAt(i) - '0');
@@ -668,8 +506,8 @@ public final class PromiseTest {
     }
 
     private static void promise24And25() {
-        promise = "24 and 25";
-        MatchboxModem x = with("modem 1 100 1 2;dog 999 30 0;");
+        topic = "promise 24 and 25";
+        Taped x = with("modem 1 100 1 2;dog 999 30 0;");
         send(x, "abcde");
         due(x.frameState(0), MatchboxModem.QUEUED);
         due(x.attemptsOf(0), 0);
@@ -688,16 +526,16 @@ public final class PromiseTest {
         refused(x, INDEX, () -> x.frameState(-1));
         refused(x, INDEX, () -> x.attemptsOf(2));
         refused(x, INDEX, () -> x.attemptsOf(-1));
-        MatchboxModem y = with("modem 1 100 1 9;dog 2 1 0;");
+        Taped y = with("modem 1 100 1 9;dog 2 1 0;");
         send(y, "a");
         due(y.transmit(60), 9);
         due(y.attemptsOf(0), 9);
     }
 
     private static void promises26To28() {
-        promise = "26 to 28";
+        topic = "promise 26 to 28";
         // The inverted bits 8, 14, 15 and 16 make a frame that is readable, but another one.
-        MatchboxModem x = with("modem 1 100 1 1;dog 999 1 8;dog 999 3 14;");
+        Taped x = with("modem 1 100 1 1;dog 999 1 8;dog 999 3 14;");
         send(x, "hi");
         due(x.hasArrived(0), false);
         due(x.isIntact(0), false);
@@ -724,7 +562,7 @@ public final class PromiseTest {
         refused(x, INDEX, () -> x.arrivedByte(2, 0));
         refused(x, INDEX, () -> x.arrivedByte(-1, 0));
         // The inverted bits 3, 9, 10 and 11 change the sequence number from 1 to 0: a false duplicate.
-        MatchboxModem y = with("modem 1 100 1 2;dog 999 1 59;dog 999 3 65;");
+        Taped y = with("modem 1 100 1 2;dog 999 1 59;dog 999 3 65;");
         send(y, "abcdefgh");
         y.transmit(2);
         due(y.messageState(0), MatchboxModem.DELIVERED);
@@ -733,7 +571,7 @@ public final class PromiseTest {
         due(y.isIntact(1), false);
         arrivesTwice();
         // Lost, but arrived: only the acknowledgement was lost.
-        MatchboxModem z = with("modem 1 100 1 1;dog 999 1 24;");
+        Taped z = with("modem 1 100 1 1;dog 999 1 24;");
         send(z, "a");
         z.transmit(1);
         due(z.frameState(0), MatchboxModem.LOST);
@@ -742,7 +580,7 @@ public final class PromiseTest {
 
     private static void arrivesTwice() {
         // With another sequence number at first, and a lost acknowledgement, the frame arrives again.
-        MatchboxModem x = with("modem 1 100 1 2;dog 999 1 3;dog 999 3 9;dog 999 1 48;");
+        Taped x = with("modem 1 100 1 2;dog 999 1 3;dog 999 3 9;dog 999 1 48;");
         send(x, "abcd");
         x.transmit(1);
         due(x.hasArrived(0), true);
@@ -767,8 +605,8 @@ public final class PromiseTest {
     }
 
     private static void promises29And30() {
-        promise = "29 and 30";
-        MatchboxModem x = new MatchboxModem();
+        topic = "promise 29 and 30";
+        Taped x = new Taped();
         due(x.safeBits(), 100);
         for (int i = 0; i < 100; i++) {
             due(x.takenFrom(i), i);
@@ -798,8 +636,8 @@ public final class PromiseTest {
     }
 
     private static void promise31() {
-        promise = "31";
-        MatchboxModem x = new MatchboxModem();
+        topic = "promise 31";
+        Taped x = new Taped();
         due(x.receivedBit(0, 6, 50), 1);
         due(x.receivedBit(0, 7, 50), 0);
         due(x.receivedBit(0, 9, 0), 1);
@@ -822,8 +660,8 @@ public final class PromiseTest {
     }
 
     private static void promises32And33() {
-        promise = "32 and 33";
-        MatchboxModem x = new MatchboxModem();
+        topic = "promise 32 and 33";
+        Taped x = new Taped();
         due(x.invertedBits(0, 0), 15);
         due(x.longestBurst(0, 0), 15);
         due(x.invertedBits(0, 50), 0);
@@ -832,7 +670,7 @@ public final class PromiseTest {
         // The drift of the receiver does not matter on the cable.
         x.setDrift(99);
         due(x.invertedBits(0, 0), 15);
-        MatchboxModem y = with("modem 3 100 1 1;dog 10 1 0;");
+        Taped y = with("modem 3 100 1 1;dog 10 1 0;");
         send(y, "a");
         // Bits begin at 0, 3, .. 69; chewed are 0, 30 and 60.
         due(y.invertedBits(0, 0), 3);
@@ -841,7 +679,7 @@ public final class PromiseTest {
         // Chewed are 0 to 3 of ten: bits 0, 1, 4, 7, 10, 11, 14, 17, 20, 21.
         due(y.invertedBits(0, 0), 10);
         due(y.longestBurst(0, 0), 2);
-        MatchboxModem z = with("modem 1 100 1 1;dog 99 5 0;dog 99 3 21;");
+        Taped z = with("modem 1 100 1 1;dog 99 5 0;dog 99 3 21;");
         send(z, "a");
         due(z.longestBurst(0, 0), 5);
         due(z.longestBurst(0, 2), 3);
@@ -859,8 +697,8 @@ public final class PromiseTest {
     }
 
     private static void promise34() {
-        promise = "34";
-        MatchboxModem x = new MatchboxModem();
+        topic = "promise 34";
+        Taped x = new Taped();
         due(x.wrongBits(0, 0), 15);
         due(x.wrongBits(0, 50), 0);
         x.setDrift(50);
@@ -878,8 +716,8 @@ public final class PromiseTest {
     }
 
     private static void promise35() {
-        promise = "35";
-        MatchboxModem x = withLostAcknowledgement();
+        topic = "promise 35";
+        Taped x = withLostAcknowledgement();
         // Bits 0 to 23, acknowledgement 24 to 31; the dog chews in tick 24.
         due(x.resultAt(0, 0), MatchboxModem.ACKNOWLEDGEMENT_LOST);
         due(x.resultAt(0, 1), MatchboxModem.UNREADABLE);
@@ -896,7 +734,7 @@ public final class PromiseTest {
         x.setDrift(20);
         due(x.resultAt(0, 25), MatchboxModem.SUCCESS);
         // Only the first tick of each bit of the acknowledgement counts.
-        MatchboxModem y = with("modem 2 100 1 1;dog 999 1 51;");
+        Taped y = with("modem 2 100 1 1;dog 999 1 51;");
         send(y, "a");
         due(y.resultAt(0, 0), MatchboxModem.SUCCESS);
         due(y.resultAt(0, 1), MatchboxModem.ACKNOWLEDGEMENT_LOST);
@@ -907,8 +745,8 @@ public final class PromiseTest {
     }
 
     private static void promise36() {
-        promise = "36";
-        MatchboxModem x = new MatchboxModem();
+        topic = "promise 36";
+        Taped x = new Taped();
         due(x.wouldPass(0, 263, 8), true);
         due(x.wouldPass(0, 263, 23), true);
         due(x.wouldPass(0, 1, 8), false);
@@ -945,8 +783,8 @@ public final class PromiseTest {
     }
 
     private static void promise37() {
-        promise = "37";
-        MatchboxModem x = new MatchboxModem();
+        topic = "promise 37";
+        Taped x = new Taped();
         due(x.earliestSuccess(0), 50);
         x.waitTicks(50);
         due(x.earliestSuccess(0), 0);
@@ -954,7 +792,7 @@ public final class PromiseTest {
         due(x.earliestSuccess(0), 100);
         refused(x, INDEX, () -> x.earliestSuccess(1));
         refused(x, INDEX, () -> x.earliestSuccess(-1));
-        MatchboxModem y = with("modem 1 100 1 1;dog 999 1 599;dog 20 1 0;");
+        Taped y = with("modem 1 100 1 1;dog 999 1 599;dog 20 1 0;");
         send(y, "a");
         due(y.earliestSuccess(0), NONE);
         y.removeDog(1);
@@ -973,17 +811,17 @@ public final class PromiseTest {
     }
 
     private static void promise38() {
-        promise = "38";
-        MatchboxModem x = new MatchboxModem();
+        topic = "promise 38";
+        Taped x = new Taped();
         due(x.bestBitTime(0), NONE);
         x.transmit(1);
         due(x.bestBitTime(0), 1);
         due(x.bitTime(), 2);
         // Bits 0 to 31 in ticks of 9, chewed in all ticks but the multiples of 9.
-        MatchboxModem y = with("modem 1 100 1 1;dog 9 8 1;");
+        Taped y = with("modem 1 100 1 1;dog 9 8 1;");
         send(y, "a");
         due(y.bestBitTime(0), 9);
-        MatchboxModem z = with("modem 1 100 1 1;dog 4 1 2;");
+        Taped z = with("modem 1 100 1 1;dog 4 1 2;");
         send(z, "a");
         // Even bit times meet the tick 2, 6, 10, .. or not: 4 never does.
         due(z.bestBitTime(0), 4);
@@ -994,13 +832,12 @@ public final class PromiseTest {
     }
 
     private static void promises41And42() {
-        promise = "41 and 42";
-        MatchboxModem x = new MatchboxModem();
+        topic = "promise 41 and 42";
+        Taped x = new Taped();
         due(x.attemptsUntilIdle(), 2);
         due(x.clockWhenIdle(), 170);
-        String before = seen(x);
-        x.clockWhenIdle();
-        due(seen(x).equals(before), true);
+        asked(x, 2, x::attemptsUntilIdle);
+        asked(x, 170, x::clockWhenIdle);
         x.transmit(1);
         due(x.attemptsUntilIdle(), 1);
         due(x.clockWhenIdle(), 170);
@@ -1011,7 +848,7 @@ public final class PromiseTest {
         due(x.clockWhenIdle(), 173);
         due(with("modem 1 100 1 1;").attemptsUntilIdle(), 0);
         // 12 messages of 4 frames, each lost after 9 attempts: beyond tick 999999.
-        MatchboxModem y = with("modem 9 100 99 9;dog 2 1 0;");
+        Taped y = with("modem 9 100 99 9;dog 2 1 0;");
         commands(y, "send abcdefghijklmnop;".repeat(12));
         due(y.attemptsUntilIdle(), 432);
         due(y.clockWhenIdle(), 48 * (9 * 504 + 255 * 99));
@@ -1027,8 +864,8 @@ public final class PromiseTest {
     }
 
     private static void promises39And40() {
-        promise = "39 and 40";
-        MatchboxModem x = with("modem 2 100 7 4;dog 2 1 0;dog 2 1 1;");
+        topic = "promise 39 and 40";
+        Taped x = with("modem 2 100 7 4;dog 2 1 0;dog 2 1 1;");
         due(x.pendingFrame(), NONE);
         due(x.napEnd(), 0);
         send(x, "abcdefgh");
@@ -1064,8 +901,8 @@ public final class PromiseTest {
     }
 
     private static void promises43To48() {
-        promise = "43 to 48";
-        MatchboxModem x = withLostAcknowledgement();
+        topic = "promise 43 to 48";
+        Taped x = withLostAcknowledgement();
         due(x.attempts() + x.duplicates() + x.unreadableFrames() + x.lostAcknowledgements(), 0);
         due(x.nappedTicks() + x.bitsSent(), 0);
         x.transmit(1);
@@ -1085,7 +922,7 @@ public final class PromiseTest {
         due(x.bitsSent(), 48);
         due(x.clock(), 65);
         due(x.frameState(0), MatchboxModem.ACKNOWLEDGED);
-        MatchboxModem y = new MatchboxModem();
+        Taped y = new Taped();
         y.transmit(1);
         due(y.unreadableFrames(), 1);
         due(y.lostAcknowledgements(), 0);
@@ -1095,13 +932,13 @@ public final class PromiseTest {
         due(y.unreadableFrames(), 1);
         due(y.bitsSent(), 64);
         // A wait that is longer than the nap leaves nothing to nap.
-        MatchboxModem z = new MatchboxModem();
+        Taped z = new Taped();
         z.transmit(1);
         z.waitTicks(15);
         z.transmit(1);
         due(z.nappedTicks(), 0);
         // Two frames of one sequence number, 16 apart, with only a give-up between them.
-        MatchboxModem w = with("modem 1 100 1 1;");
+        Taped w = with("modem 1 100 1 1;");
         send(w, "a");
         w.transmit(1);
         commands(w, "send abcdefghijklmnop;send abcdefghijklmnop;send abcdefghijklmnop;send abcdefghijkl;"
@@ -1114,8 +951,8 @@ public final class PromiseTest {
     }
 
     private static void promises49And50() {
-        promise = "49 and 50";
-        MatchboxModem x = withLostAcknowledgement();
+        topic = "promise 49 and 50";
+        Taped x = withLostAcknowledgement();
         x.transmit(1);
         due(x.attemptImbalance(), 0);
         due(x.clockImbalance(), 0);
@@ -1132,20 +969,20 @@ public final class PromiseTest {
     }
 
     private static void promises51And52() {
-        promise = "51";
-        MatchboxModem x = withLostAcknowledgement();
+        topic = "promise 51";
+        Taped x = withLostAcknowledgement();
         due(Float.floatToIntBits(x.errorRate()), Float.floatToIntBits(0.0f));
         x.transmit(1);
         due(Float.floatToIntBits(x.errorRate()), Float.floatToIntBits(1.0f));
         x.transmit(1);
         due(Float.floatToIntBits(x.errorRate()), Float.floatToIntBits(0.5f));
-        MatchboxModem y = new MatchboxModem();
+        Taped y = new Taped();
         y.transmit(9);
         commands(y, "send abcde;transmit 60;");
         float rate = (float) (y.unreadableFrames() + y.lostAcknowledgements()) / (float) y.attempts();
         due(y.attempts(), 6);
         due(Float.floatToIntBits(y.errorRate()), Float.floatToIntBits(rate));
-        promise = "52";
+        topic = "promise 52";
         due(Double.doubleToLongBits(with("modem 1 1 1 1;").throughput()), Double.doubleToLongBits(0.0));
         due(Double.doubleToLongBits(x.throughput()), Double.doubleToLongBits(1.0 / 65.0));
         due(Double.doubleToLongBits(y.throughput()), Double.doubleToLongBits(7.0 / 542.0));
@@ -1165,8 +1002,8 @@ public final class PromiseTest {
     }
 
     private static void promise53() {
-        promise = "53";
-        MatchboxModem x = with("modem 1 100 1 1;");
+        topic = "promise 53";
+        Taped x = with("modem 1 100 1 1;");
         refused(x, ARGUMENT, x::sendMessage);
         put(x, "abcdefghijklmnopq");
         refused(x, ARGUMENT, x::sendMessage);
@@ -1187,8 +1024,8 @@ public final class PromiseTest {
     }
 
     private static void promise54() {
-        promise = "54";
-        MatchboxModem x = with("modem 1 100 1 2;");
+        topic = "promise 54";
+        Taped x = with("modem 1 100 1 2;");
         due(x.transmit(60), 0);
         send(x, "abcdefghijklmnop");
         due(x.transmit(1), 1);
@@ -1198,26 +1035,23 @@ public final class PromiseTest {
         refused(x, ARGUMENT, () -> x.transmit(0));
         refused(x, ARGUMENT, () -> x.transmit(61));
         refused(x, ARGUMENT, () -> x.transmit(-1));
-        MatchboxModem y = nearTheEnd();
-        while (y.clock() < 900000) {
-            y.waitTicks(Math.min(999, 900000 - y.clock()));
-        }
+        Taped y = atTick(900000);
         due(y.clock(), 900000);
         due(y.transmit(1), 1);
-        due(y.clock() > 900000, true);
+        due(y.clock(), 900504);
         refused(y, ARGUMENT, () -> y.transmit(0));
         refused(y, STATE, () -> y.transmit(1));
         refused(y, STATE, () -> y.waitTicks(1));
         refused(y, ARGUMENT, () -> y.waitTicks(0));
         // Simulations go on beyond that.
-        due(y.attemptsUntilIdle() > 0, true);
+        due(y.attemptsUntilIdle(), 17);
         due(y.undo(), 7);
         due(y.clock(), 900000);
     }
 
     private static void promise55() {
-        promise = "55";
-        MatchboxModem x = with("modem 1 100 1 2;");
+        topic = "promise 55";
+        Taped x = with("modem 1 100 1 2;");
         send(x, "abcdefghijklmnop");
         send(x, "abcde");
         x.transmit(1);
@@ -1239,8 +1073,8 @@ public final class PromiseTest {
     }
 
     private static void promise56() {
-        promise = "56";
-        MatchboxModem x = with("modem 1 100 1 2;");
+        topic = "promise 56";
+        Taped x = with("modem 1 100 1 2;");
         send(x, "abcdefghijklmno");
         refused(x, STATE, () -> x.resendMessage(0));
         refused(x, INDEX, () -> x.resendMessage(1));
@@ -1274,29 +1108,23 @@ public final class PromiseTest {
     }
 
     private static void promise57() {
-        promise = "57";
-        MatchboxModem x = new MatchboxModem();
+        topic = "promise 57";
+        Taped x = new Taped();
         due(x.waitTicks(1), 1);
         due(x.waitTicks(999), 1000);
         refused(x, ARGUMENT, () -> x.waitTicks(0));
         refused(x, ARGUMENT, () -> x.waitTicks(1000));
         refused(x, ARGUMENT, () -> x.waitTicks(-5));
         due(x.clockImbalance(), 0);
-        MatchboxModem y = nearTheEnd();
-        while (y.clock() + 999 <= 900000) {
-            y.waitTicks(999);
-        }
-        int left = 900000 - y.clock();
-        refused(y, STATE, () -> y.waitTicks(left + 1));
-        if (left > 0) {
-            due(y.waitTicks(left), 900000);
-        }
+        Taped y = atTick(899995);
+        refused(y, STATE, () -> y.waitTicks(6));
+        due(y.waitTicks(5), 900000);
         refused(y, STATE, () -> y.waitTicks(1));
     }
 
     private static void promise58() {
-        promise = "58";
-        MatchboxModem x = new MatchboxModem();
+        topic = "promise 58";
+        Taped x = new Taped();
         due(x.setDrift(99), 0);
         due(x.setDrift(-99), 99);
         due(x.setDrift(-99), -99);
@@ -1310,8 +1138,8 @@ public final class PromiseTest {
     }
 
     private static void promises59And60() {
-        promise = "59 and 60";
-        MatchboxModem x = with("modem 1 100 1 1;");
+        topic = "promise 59 and 60";
+        Taped x = with("modem 1 100 1 1;");
         due(x.addDog(2, 1, 0), 0);
         due(x.addDog(999, 998, 999), 1);
         refused(x, ARGUMENT, () -> x.addDog(1, 1, 0));
@@ -1340,7 +1168,7 @@ public final class PromiseTest {
         due(x.undo(), 5);
         due(x.nextChewedTick(0), 1);
         // The last one of three.
-        MatchboxModem y = with("modem 1 100 1 1;dog 100 1 1;dog 100 1 2;dog 100 1 3;");
+        Taped y = with("modem 1 100 1 1;dog 100 1 1;dog 100 1 2;dog 100 1 3;");
         due(y.removeDog(1), 2);
         due(y.isChewed(1), true);
         due(y.isChewed(2), false);
@@ -1358,8 +1186,8 @@ public final class PromiseTest {
     }
 
     private static void promise61() {
-        promise = "61";
-        MatchboxModem x = with("modem 1 100 1 2;dog 60 1 30;");
+        topic = "promise 61";
+        Taped x = with("modem 1 100 1 2;dog 60 1 30;");
         String[] before = new String[12];
         for (int i = 0; i < 12; i++) {
             before[i] = state(x);
@@ -1374,7 +1202,7 @@ public final class PromiseTest {
         }
         for (int i = 11; i >= 4; i--) {
             due(x.undo(), i - 4);
-            due(state(x).equals(before[i]), true);
+            due(state(x), before[i]);
         }
         refused(x, STATE, x::undo);
         x.waitTicks(1);
@@ -1383,13 +1211,13 @@ public final class PromiseTest {
         x.setDrift(7);
         due(x.undo(), 1);
         due(x.undo(), 0);
-        due(state(x).equals(before[4]), true);
+        due(state(x), before[4]);
         refused(x, STATE, x::undo);
     }
 
     private static void promise61WhatStays() {
         // The input buffer, the error, the output and the saved state stay as they are.
-        MatchboxModem x = new MatchboxModem();
+        Taped x = new Taped();
         x.waitTicks(5);
         put(x, "wait 0;");
         boolean threw = false;
@@ -1416,7 +1244,7 @@ public final class PromiseTest {
         due(x.messageCount(), 1);
         refused(x, ARGUMENT, () -> x.truncate(1));
         // The sequence number of the receiver is taken back as well: no duplicate the second time.
-        MatchboxModem y = with("modem 1 100 1 1;");
+        Taped y = with("modem 1 100 1 1;");
         send(y, "a");
         y.transmit(1);
         y.undo();
@@ -1428,8 +1256,8 @@ public final class PromiseTest {
     }
 
     private static void promises62And63() {
-        promise = "62 and 63";
-        MatchboxModem x = new MatchboxModem();
+        topic = "promise 62 and 63";
+        Taped x = new Taped();
         refused(x, STATE, x::restore);
         x.transmit(1);
         due(x.save(), 80);
@@ -1439,13 +1267,13 @@ public final class PromiseTest {
         x.formatFrame(0, 50);
         put(x, "abc");
         due(x.restore(), 80);
-        due(state(x).equals(before), true);
+        due(state(x), before);
         due(x.truncate(3), 3);
         due(x.outputByte(34), 42);
         refused(x, STATE, x::undo);
         commands(x, "send hello;transmit 60;dog 2 1 0;drift 5;");
         due(x.restore(), 80);
-        due(state(x).equals(before), true);
+        due(state(x), before);
         x.transmit(5);
         due(x.save(), 170);
         // To save is no operation, and what it saved is not changed by later calls.
@@ -1457,7 +1285,7 @@ public final class PromiseTest {
         due(x.messageCount(), 1);
         due(x.frameState(0), MatchboxModem.ACKNOWLEDGED);
         // The receiver's sequence number is saved: a frame of that number is a duplicate afterwards.
-        MatchboxModem y = withLostAcknowledgement();
+        Taped y = withLostAcknowledgement();
         y.transmit(1);
         y.save();
         put(y, "modem 1 100 1 1;");
@@ -1468,8 +1296,8 @@ public final class PromiseTest {
     }
 
     private static void promises64And65() {
-        promise = "64 and 65";
-        MatchboxModem x = new MatchboxModem();
+        topic = "promise 64 and 65";
+        Taped x = new Taped();
         due(x.outputByte(0), NONE);
         due(x.formatFrame(0, 50), 35);
         String want = "......*. .**.*... .**.*..* *..*..**";
