@@ -65,12 +65,24 @@ public final class FaceTest {
         for (Class<?> inside : MatchboxModem.class.getDeclaredClasses()) {
             check(Modifier.isStatic(inside.getModifiers()), inside + " is not static");
             check(!Modifier.isPublic(inside.getModifiers()), inside + " is public");
-            check(inside.getDeclaredFields().length <= 20, inside + " has too many fields");
             for (Method m : inside.getDeclaredMethods()) {
                 check(!names.contains(m.getName()), m + " has the name of a public method");
+                check(m.getParameterCount() <= 7, m + " has too many parameters");
+            }
+            fields(inside);
+        }
+        fields(MatchboxModem.class);
+        check(MatchboxModem.class.getDeclaredClasses().length < 12, "there are too many classes");
+    }
+
+    private static void fields(Class<?> type) {
+        for (Field f : type.getDeclaredFields()) {
+            if (Modifier.isStatic(f.getModifiers())) {
+                check(Modifier.isFinal(f.getModifiers()) && f.getType() == int.class, f + " is no constant");
             }
         }
-        check(MatchboxModem.class.getDeclaredClasses().length < 12, "there are too many classes");
+        long own = Arrays.stream(type.getDeclaredFields()).filter(f -> !Modifier.isStatic(f.getModifiers())).count();
+        check(own <= 20, type + " has too many fields");
     }
 
     private static String constant(Field f) {
